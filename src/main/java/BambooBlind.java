@@ -587,7 +587,7 @@ public final class BambooBlind {
                 goesOn = runRepeat(next, depth + 1);
                 next = script.behind[next];
             } else {
-                goesOn = runCommand(next);
+                goesOn = doCommand(next);
                 next++;
             }
         }
@@ -601,15 +601,6 @@ public final class BambooBlind {
             goesOn = runCommands(command + 1, script.behind[command], depth);
         }
         return goesOn;
-    }
-
-    private boolean runCommand(int command) {
-        if (commandProblem(command) != FINE) {
-            return false;
-        }
-        doCommand(command);
-        commandsDone++;
-        return commandsDone < Script.MOST_DONE;
     }
 
     private int commandProblem(int command) {
@@ -633,7 +624,11 @@ public final class BambooBlind {
         }
     }
 
-    private void doCommand(int command) {
+    /** Does a command; tells whether the script goes on behind it. */
+    private boolean doCommand(int command) {
+        if (commandProblem(command) != FINE) {
+            return false;
+        }
         int[] number = script.number[command];
         boolean isRight = script.isRight[command];
         switch (script.verb[command]) {
@@ -659,6 +654,8 @@ public final class BambooBlind {
                 now.swapFaces(number[0]);
                 break;
         }
+        commandsDone++;
+        return commandsDone < Script.MOST_DONE;
     }
 
     private static int toSide(int steps, boolean isRight) {
@@ -772,13 +769,16 @@ public final class BambooBlind {
             while (start < length && (bytes[start] == ' ' || bytes[start] == '\n')) {
                 start++;
             }
+            int behindLetters = endOfRun('a', 'z');
+            int behindDigits = endOfRun('0', '9');
             if (start >= length) {
+                end = start;
                 kind = END;
-            } else if (isWithin(start, 'a', 'z')) {
-                end = endOfRun('a', 'z');
+            } else if (behindLetters > start) {
+                end = behindLetters;
                 kind = end - start <= MOST_LETTERS ? WORD : INVALID;
-            } else if (isWithin(start, '0', '9')) {
-                end = endOfRun('0', '9');
+            } else if (behindDigits > start) {
+                end = behindDigits;
                 kind = end - start <= MOST_DIGITS ? NUMBER : INVALID;
                 number = kind == NUMBER ? numberHere() : 0;
             } else {
@@ -791,13 +791,10 @@ public final class BambooBlind {
             return sign == ';' || sign == '(' || sign == ')';
         }
 
-        private boolean isWithin(int i, char least, char most) {
-            return i < length && bytes[i] >= least && bytes[i] <= most;
-        }
-
+        /** Where the run of signs from the least to the most one ends that begins here. */
         private int endOfRun(char least, char most) {
             int i = start;
-            while (i < length && isWithin(i, least, most)) {
+            while (i < length && bytes[i] >= least && bytes[i] <= most) {
                 i++;
             }
             return i;
@@ -1221,7 +1218,6 @@ public final class BambooBlind {
             tiedSlats = 0;
             Arrays.fill(leftPicture, 0);
             Arrays.fill(rightPicture, 0);
-            paintAll();
         }
 
         void paintAll() {

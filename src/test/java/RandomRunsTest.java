@@ -6,7 +6,7 @@ import java.util.Random;
 
 /** Runs of calls, always the same ones, on the class and on the reference. */
 public final class RandomRunsTest {
-    private static final int RUNS = 600;
+    private static final int RUNS = 300;
     private static final int CALLS = 300;
 
     // Each method with what its arguments are: a few of each kind are out of range.

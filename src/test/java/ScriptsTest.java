@@ -11,6 +11,7 @@ public final class ScriptsTest {
     public static void main(String[] args) {
         commands();
         asTheMethods();
+        slatsOfCommands();
         emptyScripts();
         repeat();
         repeatInRepeat();
@@ -66,6 +67,19 @@ public final class ScriptsTest {
         other.pull(1);
         other.paint(0, false);
         Check.same("a script does as the methods do", Blinds.all(blind), Blinds.all(other));
+    }
+
+    /** The first number of a command is the slat, also where the others are numbers of slats. */
+    private static void slatsOfCommands() {
+        BambooBlind blind = Blinds.of(TEXT);
+        Check.same("dab of slat 2", Blinds.run(blind, "dab 2 left 1 0 6;dab 2 right 0 1 7;"), 2);
+        Check.same("left face 2", Blinds.face(blind, 2, false), "161/000");
+        Check.same("right face 2", Blinds.face(blind, 2, true), "000/722");
+        Check.same("left face 1", Blinds.face(blind, 1, false), "13/03");
+        Check.same("swap of slat 2", Blinds.run(blind, "swap 2;"), 1);
+        Check.same("left face 2 then", Blinds.face(blind, 2, false), "000/722");
+        Check.same("left face 1 then", Blinds.face(blind, 1, false), "13/03");
+        Check.same("left face 0 then", Blinds.face(blind, 0, false), "1/0");
     }
 
     private static void emptyScripts() {
@@ -178,6 +192,9 @@ public final class ScriptsTest {
         Check.same("a right script then", Blinds.run(blind, "swap 1;"), 1);
         Check.same("no code", blind.errorCode(), 0);
         Check.same("no position", blind.errorPosition(), NONE);
+        Blinds.feed(blind, "repeat 2(repeat 2(swap 0;");
+        Check.noValue("a script that ends too early", blind::runScript);
+        Check.same("a repeat behind it", Blinds.run(blind, "repeat 2(repeat 2(swap 0;););"), 4);
     }
 
     private static void undoOfScripts() {

@@ -137,6 +137,11 @@ public final class SeenTest {
         Check.same("another colour from the left", blind.why(-6, false, 4, 1), 5);
         blind.spot(true, 2, 1, 7);
         Check.same("another picture", blind.why(6, true, 2, 1), 5);
+        Check.same("another picture with lean 1", blind.why(1, true, 2, 1), 5);
+        Check.same("the other face with lean 1", blind.why(1, false, 2, 1), 4);
+        Check.same("the other face with lean -1", blind.why(-1, true, 0, 0), 4);
+        blind.dab(0, false, 0, 0, 9);
+        Check.same("another colour with lean -1", blind.why(-1, false, 0, 0), 5);
     }
 
     // Promise 16
@@ -232,6 +237,7 @@ public final class SeenTest {
         wrong.dab(0, false, 0, 0, 9);
         wrong.dab(0, true, 0, 0, 9);
         Check.same("the lowest of all", wrong.bestAngle(true), -6);
+        Check.same("best of one column", Blinds.of("slat 1;").bestAngle(true), -6);
         Check.same("best without columns", new BambooBlind().bestAngle(false), NOWHERE);
     }
 
@@ -359,6 +365,7 @@ public final class SeenTest {
         Check.same("lightest of like turns", Blinds.of(EVEN).lightest(), 0);
         Check.same("the lowest of several",
                 Blinds.of("high 1;slat 1 right 1;slat 3 left 1;").lightest(), -5);
+        Check.same("lightest of one column", Blinds.of("slat 1 left 4;").lightest(), -4);
         Check.same("lightest without columns", new BambooBlind().lightest(), NOWHERE);
     }
 

@@ -138,7 +138,8 @@ public final class TextsTest {
     }
 
     private static void readTextReplacesAll() {
-        BambooBlind blind = Blinds.of("high 8;coats 3;slat 4 left 2;slat 2;box left 0 0 9 9 3;");
+        BambooBlind blind = Blinds.of("high 8;coats 3;slat 4 left 2;slat 2;"
+                + "box left 0 0 9 9 3;box right 0 0 9 9 4;");
         blind.tie(0, true);
         blind.paint(0, true);
         blind.dab(1, false, 0, 0, 7);
