@@ -217,6 +217,8 @@ public final class ScriptsTest {
         scriptError("slat 1;", 1, 0);
         scriptError("pulls left 1;", 1, 0);
         scriptError("pul left 1;", 1, 0);
+        scriptError("bull left 1;", 1, 0);
+        scriptError("pull reft 1;", 1, 5);
         scriptError("pull 1;", 1, 5);
         scriptError("pull left;", 1, 9);
         scriptError("pull left 1", 1, 11);

@@ -207,6 +207,8 @@ public final class TextsTest {
         textError("left;", 1, 0);
         textError("slats 1;", 1, 0);
         textError("sla 1;", 1, 0);
+        textError("blat 1;", 1, 0);
+        textError("slam 1;", 1, 0);
         textError("abcdefghi 1;", 1, 0);
         textError("Slat 1;", 1, 0);
         textError("slat\t1;", 1, 4);
