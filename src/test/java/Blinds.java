@@ -42,10 +42,12 @@ final class Blinds {
 
     /** The colours of a picture, its rows with a stroke between them. */
     static String picture(BambooBlind blind, boolean isRight) {
+        int rows = blind.setting(1);
+        int columns = blind.setting(2);
         StringBuilder colours = new StringBuilder();
-        for (int row = 0; row < blind.setting(1); row++) {
+        for (int row = 0; row < rows; row++) {
             colours.append(row == 0 ? "" : "/");
-            for (int column = 0; column < blind.setting(2); column++) {
+            for (int column = 0; column < columns; column++) {
                 colours.append(blind.picture(isRight, column, row));
             }
         }
@@ -54,10 +56,12 @@ final class Blinds {
 
     /** The colours of a face, its rows with a stroke between them. */
     static String face(BambooBlind blind, int slat, boolean isRight) {
+        int rows = blind.setting(1);
+        int columns = blind.slat(slat, 0);
         StringBuilder colours = new StringBuilder();
-        for (int row = 0; row < blind.setting(1); row++) {
+        for (int row = 0; row < rows; row++) {
             colours.append(row == 0 ? "" : "/");
-            for (int column = 0; column < blind.slat(slat, 0); column++) {
+            for (int column = 0; column < columns; column++) {
                 colours.append(blind.face(slat, isRight, column, row));
             }
         }
@@ -66,10 +70,12 @@ final class Blinds {
 
     /** What is seen from an angle, as the report tells it, its rows with a stroke between them. */
     static String seen(BambooBlind blind, int angle) {
+        int rows = blind.setting(1);
+        int columns = blind.setting(2);
         StringBuilder signs = new StringBuilder();
-        for (int row = 0; row < blind.setting(1); row++) {
+        for (int row = 0; row < rows; row++) {
             signs.append(row == 0 ? "" : "/");
-            for (int column = 0; column < blind.setting(2); column++) {
+            for (int column = 0; column < columns; column++) {
                 int seen = blind.seen(angle, column, row);
                 boolean isOpen = seen == BambooBlind.NONE;
                 boolean isCovered = seen == BambooBlind.COVERED;
@@ -81,8 +87,9 @@ final class Blinds {
 
     /** A number of each slat. */
     static String ofSlats(BambooBlind blind, int what) {
+        int slats = blind.setting(0);
         StringBuilder numbers = new StringBuilder();
-        for (int slat = 0; slat < blind.setting(0); slat++) {
+        for (int slat = 0; slat < slats; slat++) {
             numbers.append(slat == 0 ? "" : " ").append(blind.slat(slat, what));
         }
         return numbers.toString();
@@ -90,12 +97,13 @@ final class Blinds {
 
     /** All that can be asked of the slats, the faces and the pictures. */
     static String all(BambooBlind blind) {
+        int slats = blind.setting(0);
         StringBuilder told = new StringBuilder();
         for (int what = 0; what <= 8; what++) {
             told.append(blind.setting(what)).append(' ');
         }
         told.append(picture(blind, false)).append(' ').append(picture(blind, true));
-        for (int slat = 0; slat < blind.setting(0); slat++) {
+        for (int slat = 0; slat < slats; slat++) {
             for (int what = 0; what <= 7; what++) {
                 told.append(' ').append(blind.slat(slat, what));
             }

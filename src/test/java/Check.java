@@ -39,7 +39,8 @@ final class Check {
         same(what, thrownBy(calls), "IllegalStateException");
     }
 
-    private static String thrownBy(Calls calls) {
+    /** The name of the exception that is thrown, or "nothing". */
+    static String thrownBy(Calls calls) {
         try {
             calls.make();
         } catch (RuntimeException e) {

@@ -208,9 +208,6 @@ public final class KeepTest {
         Blinds.read(blind, "high 8;slat 1;");
         Check.same("restore behind a text", blind.restore(), 3);
         Check.same("all is as it was saved then", Blinds.all(blind), before);
-        blind.pull(4);
-        Check.same("what is saved stays", blind.restore(), 3);
-        Check.same("all of it", Blinds.all(blind), before);
         BambooBlind none = new BambooBlind();
         none.save();
         Blinds.read(none, TEXT);

@@ -71,7 +71,7 @@ public final class LargestTest {
 
     private static void changes() {
         BambooBlind blind = Blinds.of(TEXT);
-        String before = Blinds.all(blind);
+        String before = numbers(blind);
         blind.save();
         Check.same("tie", blind.tie(9, true), true);
         Check.same("pull", blind.pull(8), 9);
@@ -84,10 +84,24 @@ public final class LargestTest {
         for (int left = 5; left >= 0; left--) {
             Check.same("undo", blind.undo(), left);
         }
-        Check.same("all is undone", Blinds.all(blind), before);
+        Check.same("all is undone", numbers(blind), before);
         blind.swap(9);
         Check.same("restore", blind.restore(), 10);
-        Check.same("all is restored", Blinds.all(blind), before);
+        Check.same("all is restored", numbers(blind), before);
+    }
+
+    /** The numbers of the blind and of its slats; all of its cells would take too many calls. */
+    private static String numbers(BambooBlind blind) {
+        StringBuilder told = new StringBuilder();
+        for (int what = 0; what <= 8; what++) {
+            told.append(blind.setting(what)).append(' ');
+        }
+        for (int what = 0; what <= 7; what++) {
+            told.append(Blinds.ofSlats(blind, what)).append("; ");
+        }
+        return told.append(blind.common()).append(' ').append(blind.right(6, true)).append(' ')
+                .append(blind.right(-6, false)).append(' ').append(blind.picture(false, 59, 7))
+                .append(blind.face(9, true, 5, 7)).toString();
     }
 
     private static void smallest() {
