@@ -27,6 +27,8 @@ public final class KeepBoundsTest {
         undoOfSeven();
         undoRoundTheEnd();
         undoOfEachChange();
+        changesKeepTheRest();
+        scriptsKeepTheRest();
         undoOfScripts();
         undoKeepsTheRest();
         whatIsNoChange();
@@ -229,6 +231,36 @@ public final class KeepBoundsTest {
         undone("spot of its colour", blind -> blind.spot(false, 0, 0, 3));
     }
 
+    // The changes leave the report, the buffer, the error and what is saved as they are, and so
+    // does undo.
+    private static void changesKeepTheRest() {
+        Twins.restUnchanged("pull", Twins::used, blind -> blind.pull(-8));
+        Twins.restUnchanged("turn", Twins::used, blind -> blind.turn(0, -4));
+        Twins.restUnchanged("tie", Twins::used, blind -> blind.tie(0, true));
+        Twins.restUnchanged("free", Twins::used, blind -> blind.tie(1, false));
+        Twins.restUnchanged("paint", Twins::used, blind -> blind.paint(0, false));
+        Twins.restUnchanged("dab", Twins::used, blind -> blind.dab(0, true, 1, 1, 9));
+        Twins.restUnchanged("swap", Twins::used, blind -> blind.swap(0));
+        Twins.restUnchanged("spot", Twins::used, blind -> blind.spot(true, 2, 1, 9));
+        Twins.restUnchanged("undo", Twins::used, BambooBlind::undo);
+        Twins.restUnchanged("three undo and one too much", Twins::used, blind -> {
+            for (int i = 0; i < 4; i++) {
+                blind.undo();
+            }
+        });
+    }
+
+    // A script leaves the report and what is saved as they are.
+    private static void scriptsKeepTheRest() {
+        BambooBlind blind = Twins.used();
+        BambooBlind other = Twins.used();
+        blind.truncate(0);
+        Check.same("a script", Blinds.run(blind, "swap 0;pull left 1;swap 2;"), 2);
+        Check.same("the report stays", State.report(blind), State.report(other));
+        Check.same("what is saved stays", blind.restore(), other.restore());
+        Check.same("all of it", Blinds.all(blind), Blinds.all(other));
+    }
+
     private static void undone(String what, Twins.Call change) {
         undone(what, blind -> blind.dab(1, true, 0, 0, 4), change);
     }
@@ -356,6 +388,18 @@ public final class KeepBoundsTest {
         Check.same("all but what is saved", Blinds.all(blind), Blinds.all(other));
         Check.same("what can be undone stays", blind.undo(), 0);
         Check.same("as before", blind.undo(), NONE);
+        BambooBlind again = Twins.used();
+        BambooBlind once = Twins.used();
+        again.undo();
+        once.undo();
+        again.save();
+        Check.same("the report stays", State.report(again), State.report(once));
+        Check.same("the code stays", again.errorCode(), 1);
+        Check.same("the position stays", again.errorPosition(), 4);
+        Check.same("the buffer stays", State.bufferLength(again), 14);
+        Check.same("the other changes stay", again.undo(), 1);
+        Check.same("another state is saved", again.restore(), 2);
+        Check.same("it has the second coat", again.slat(0, 5), 2);
     }
 
     // "in place of an earlier one"

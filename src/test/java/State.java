@@ -36,6 +36,16 @@ final class State {
         return told.append(" saved ").append(saved(blind)).toString();
     }
 
+    /** The report, the error, what is saved and the buffer; all else is used up then. */
+    static String butTheBlind(BambooBlind blind) {
+        StringBuilder told = new StringBuilder("error ");
+        told.append(blind.errorCode()).append(' ').append(blind.errorPosition());
+        told.append(" buffer ").append(bufferLength(blind));
+        told.append(" report ").append(report(blind));
+        told.append(" saved ").append(saved(blind));
+        return told.append(" text ").append(textOfBuffer(blind)).toString();
+    }
+
     /** The bytes of the latest report, up to the first one that is refused. */
     static String report(BambooBlind blind) {
         StringBuilder bytes = new StringBuilder();

@@ -39,6 +39,14 @@ final class Twins {
         Check.same("nothing changes by " + what, State.whole(asked), State.whole(making.make()));
     }
 
+    /** The call may change the blind and what can be undone alone. */
+    static void restUnchanged(String what, Making making, Call call) {
+        BambooBlind changed = making.make();
+        call.on(changed);
+        Check.same("the rest stays by " + what, State.butTheBlind(changed),
+                State.butTheBlind(making.make()));
+    }
+
     /** The call refuses; nothing but the buffer and the error may change. */
     static void textRefused(String what, Making making, Call call) {
         BambooBlind refusing = making.make();
