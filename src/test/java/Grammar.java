@@ -65,6 +65,22 @@ final class Grammar {
         return token.matches("[;()]") ? token.charAt(0) : 'x';
     }
 
+    /** With another letter, one less or one more, a word of the statement is no word of it. */
+    void otherLetters(String statement, String word) {
+        int from = statement.indexOf(word);
+        int behind = from + word.length();
+        fine(statement);
+        for (int i = from; i < behind; i++) {
+            char letter = statement.charAt(i) == 'q' ? 'z' : 'q';
+            error(statement.substring(0, i) + letter + statement.substring(i + 1), 1, from);
+            error(statement.substring(0, i) + "A" + statement.substring(i + 1), 1, from);
+        }
+        error(statement.substring(0, behind - 1) + statement.substring(behind), 1, from);
+        error(statement.substring(0, from) + statement.substring(from + 1), 1, from);
+        error(statement.substring(0, behind) + "s" + statement.substring(behind), 1, from);
+        error(statement.substring(0, from) + "s" + statement.substring(from), 1, from);
+    }
+
     /** The text has no error, whatever it does. */
     void fine(String text) {
         BambooBlind blind = new BambooBlind();

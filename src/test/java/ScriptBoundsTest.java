@@ -349,6 +349,16 @@ public final class ScriptBoundsTest {
 
     // "The tokens are those of a text."
     private static void runsOfLettersAndDigits() {
+        SCRIPTS.otherLetters("pull left 1;", "pull");
+        SCRIPTS.otherLetters("pull left 1;", "left");
+        SCRIPTS.otherLetters("turn 0 right 1;", "turn");
+        SCRIPTS.otherLetters("turn 0 right 1;", "right");
+        SCRIPTS.otherLetters("tie 0;", "tie");
+        SCRIPTS.otherLetters("free 0;", "free");
+        SCRIPTS.otherLetters("paint 0 left;", "paint");
+        SCRIPTS.otherLetters("dab 0 left 0 0 0;", "dab");
+        SCRIPTS.otherLetters("swap 0;", "swap");
+        SCRIPTS.otherLetters("repeat 1();", "repeat");
         SCRIPTS.error("swapswap 0;", 1, 0);
         SCRIPTS.error("swapswaps 0;", 1, 0);
         SCRIPTS.error("repeats 1();", 1, 0);

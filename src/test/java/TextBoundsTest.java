@@ -321,6 +321,13 @@ public final class TextBoundsTest {
         TEXTS.error("slat 1;" + "a".repeat(593), 1, 7);
         TEXTS.error("s lat 1;", 1, 0);
         TEXTS.error("slat 1;slaT 1;", 1, 7);
+        TEXTS.otherLetters("high 1;", "high");
+        TEXTS.otherLetters("coats 1;", "coats");
+        TEXTS.otherLetters("slat 1;", "slat");
+        TEXTS.otherLetters("slat 1 left 1;", "left");
+        TEXTS.otherLetters("slat 1 right 1;", "right");
+        TEXTS.otherLetters("box left 1 1 1 1 1;", "box");
+        TEXTS.otherLetters("box left 1 1 1 1 1;", "left");
         TEXTS.error("slat 1;slat` 1;", 1, 11);
         TEXTS.error("slat 1;slat{ 1;", 1, 11);
     }
