@@ -43,12 +43,14 @@ public final class SeenBoundsTest {
         seenColours();
         whyInOrder();
         whyOfColours();
+        whyOfEachSlat();
         right();
         open();
         covered();
         wholeOfOne();
         wholeWithoutColumns();
         firstWrong();
+        firstWrongOfARowOrColumn();
         shownFrom();
         bestAngle();
         seam();
@@ -343,6 +345,25 @@ public final class SeenBoundsTest {
         Check.same("the other face with lean -1", near.why(-1, true, 0, 0), 4);
     }
 
+    // From one angle the left face of a slat is seen, and the right face of another one.
+    private static void whyOfEachSlat() {
+        BambooBlind blind = Blinds.of("high 2;slat 6 right 1;slat 6 left 1;box left 0 0 12 2 1;"
+                + "box right 0 0 12 2 2;");
+        Check.same("both faces", Blinds.seen(blind, 0), "1.....||...2/1.....||...2");
+        Check.same("the left face of slat 0", blind.why(0, false, 0, 1), 0);
+        Check.same("the right face of slat 1", blind.why(0, true, 11, 1), 0);
+        Check.same("not its right face", blind.why(0, true, 0, 1), 4);
+        Check.same("not its left face", blind.why(0, false, 11, 1), 4);
+        for (int row = 0; row < 2; row++) {
+            blind.dab(0, false, 0, row, 9);
+            blind.dab(1, true, 5, row, 9);
+            Check.same("its own face at column 0", blind.why(0, false, 0, row), 5);
+            Check.same("the other face at column 0", blind.why(0, true, 0, row), 4);
+            Check.same("its own face at column 11", blind.why(0, true, 11, row), 5);
+            Check.same("the other face at column 11", blind.why(0, false, 11, row), 4);
+        }
+    }
+
     // Promise 16: "the cells that are seen right for a picture"
     private static void right() {
         Check.same("of nothing", new BambooBlind().right(6, true), 0);
@@ -424,6 +445,20 @@ public final class SeenBoundsTest {
         Check.same("the last one of the first row", blind.firstWrong(6, true), 59);
         blind.dab(0, true, 0, 0, 3);
         Check.same("the first one of all", blind.firstWrong(6, true), 0);
+    }
+
+    // "The number of a cell is its row times the columns of the blind, and its column."
+    private static void firstWrongOfARowOrColumn() {
+        BambooBlind high = Blinds.of("high 8;slat 1;");
+        for (int row = 7; row >= 0; row--) {
+            high.dab(0, true, 0, row, 9);
+            Check.same("of one column", high.firstWrong(6, true), row);
+        }
+        BambooBlind wide = Blinds.of("high 1;" + "slat 6;".repeat(10));
+        for (int column = 59; column >= 0; column--) {
+            wide.dab(column / 6, true, column % 6, 0, 9);
+            Check.same("of one row", wide.firstWrong(6, true), column);
+        }
     }
 
     // Promise 21: "as a set: bit k for the angle k - 6"

@@ -21,6 +21,7 @@ public final class TextBoundsTest {
         truncateBounds();
         truncateRefused();
         readTextReplacesAll();
+        readTextReplacesWhatIsSeen();
         readTextBeginsAnew();
         readTextEmptiesTheBuffer();
         readTextAnswersTheSlats();
@@ -143,6 +144,30 @@ public final class TextBoundsTest {
         Check.same("all that is saved", blind.face(0, false, 0, 0), 7);
         blind.readText();
         Check.same("replaced by an empty text", Blinds.all(blind), Blinds.all(new BambooBlind()));
+    }
+
+    // Narrow slats, then fewer and wider ones at the same columns, and the other way round.
+    private static void readTextReplacesWhatIsSeen() {
+        String narrow = "high 1;" + "slat 1 left 4;slat 1 right 4;".repeat(5)
+                + "box left 0 0 9 1 1;box right 0 0 9 1 2;";
+        String wide = "high 1;slat 6 right 1;slat 5;box left 0 0 9 1 3;box right 0 0 9 1 4;";
+        replacesWhatIsSeen(narrow, wide);
+        replacesWhatIsSeen(wide, narrow);
+    }
+
+    private static void replacesWhatIsSeen(String before, String text) {
+        BambooBlind blind = Blinds.of(before);
+        blind.save();
+        Blinds.read(blind, text);
+        BambooBlind other = Blinds.of(text);
+        for (int angle = -6; angle <= 6; angle++) {
+            Check.same("seen of " + text, Blinds.seen(blind, angle), Blinds.seen(other, angle));
+        }
+        blind.restore();
+        BambooBlind first = Blinds.of(before);
+        for (int angle = -6; angle <= 6; angle++) {
+            Check.same("seen of " + before, Blinds.seen(blind, angle), Blinds.seen(first, angle));
+        }
     }
 
     // "A slat may be tied (not at first)", "with one coat", "not turned without it"

@@ -27,6 +27,7 @@ public final class WouldBeBoundsTest {
         bestTurnFromEachAngle();
         bestTurnTiedOrNot();
         bestTurnOfTheWholeBlind();
+        bestTurnOfEachSlat();
         bestTurnLowest();
         bestPullBounds();
         bestPullNotAtAll();
@@ -43,6 +44,7 @@ public final class WouldBeBoundsTest {
         turnsNeededFewest();
         fairestFromEachAngle();
         fairestBounds();
+        fairestOfOneCell();
         fairestTiedOrNot();
         askingChangesNothing();
         Check.end();
@@ -137,6 +139,16 @@ public final class WouldBeBoundsTest {
         Check.same("nor is one before it", blind.bestTurn(1, 6, true), 0);
         blind.turn(1, -4);
         Check.same("as the next one", blind.bestTurn(0, 6, true), -4);
+    }
+
+    // The others stay as they are, each of them.
+    private static void bestTurnOfEachSlat() {
+        BambooBlind blind = Blinds.of("high 1;" + "slat 1 right 3;".repeat(10));
+        for (int slat = 0; slat < 10; slat++) {
+            blind.turn(slat, -1);
+            Check.same("as the others", blind.bestTurn(slat, 6, true), 3);
+            blind.turn(slat, 3);
+        }
     }
 
     // "the lowest one of several"
@@ -325,6 +337,17 @@ public final class WouldBeBoundsTest {
         Check.same("the highest", blind.fairest(0), 4);
         Check.same("the lowest that is enough", blind.fairest(-3), 3);
         Check.same("none is better", blind.fairest(6), -4);
+    }
+
+    // "the most cells [...] together": also one alone
+    private static void fairestOfOneCell() {
+        // The left picture alone can be seen right, with turns above the angle.
+        BambooBlind blind = Blinds.of(ONE + "box left 0 0 1 1 1;box right 0 0 1 1 2;");
+        blind.dab(0, true, 0, 0, 9);
+        int[] due = {-4, -4, -3, -2, -1, 0, 1, 2, 3, 4, -4, -4, -4};
+        for (int angle = -6; angle <= 6; angle++) {
+            Check.same("one cell from " + angle, blind.fairest(angle), due[angle + 6]);
+        }
     }
 
     // "if all slats had it (tied or not)"
